@@ -182,8 +182,8 @@ public final class LastPenny {
         if (p == null || !isPart(part)) {
             return NO;
         }
-        int purse = all.purses[player];
-        return lowest(Chances.climbs(all, p, purse), Chances.climbs(all, p, p.goal), part);
+        chances.lookAtPennyOdds(all, p);
+        return lowest(chances.climbed(p.goal, all.purses[player]), chances.climbed(p.goal, p.goal), part);
     }
 
     public int best(int player, int n) {
@@ -755,7 +755,8 @@ public final class LastPenny {
     /** Reads a TABLE; wherever it gives up, at is the FAULT. */
     private static final class Reader {
         static final int NOT = -1, AND = -2, OR = -3;
-        private static final String SEEN = "nkpgsd", COMPARED = "<=>";
+        private static final int NO_WORD = 0, LEAN = 1, TILT = 2, LIMIT = 3;
+        private static final String SEEN = "nkpgsd", COMPARED = "<=>", DIGITS = "0123456789";
 
         private byte[] text;
         private int size;
@@ -813,82 +814,74 @@ public final class LastPenny {
 
         /** Which of the signs comes next, and is taken; -1: none of them. */
         private int takeOneOf(String signs) {
-            for (int i = 0; i < signs.length(); i++) {
-                if (take(signs.charAt(i))) {
-                    return i;
-                }
+            int found = text == null || at >= size ? -1 : signs.indexOf((char) text[at]);
+            if (found >= 0) {
+                at++;
             }
-            return -1;
+            return found;
         }
 
         private int readNumber() {
-            int first = takeOneOf("0123456789");
+            int first = takeOneOf(DIGITS);
             if (first <= 0) {
                 return first;
             }
-            int second = takeOneOf("0123456789");
+            int second = takeOneOf(DIGITS);
             return second < 0 ? first : first * 10 + second;
         }
 
         private boolean readClause() {
-            if (take('t')) {
-                return takeAll("ilt ") && readLeaning(-1);
-            }
-            if (!take('l')) {
-                return false;
-            }
-            if (take('e')) {
-                return takeAll("an ") && readLeaning(1);
-            }
-            return takeAll("imit ") && readLimit();
-        }
-
-        private boolean readLimit() {
-            int n = readNumber();
+            int word = readWord();
+            int n = word == NO_WORD ? -1 : readNumber();
             if (n < 0) {
                 return false;
             }
-            limit = Math.max(1, n);
-            return true;
-        }
-
-        private boolean readLeaning(int sign) {
-            int n = readNumber();
-            if (n < 0 || !take(' ') || !readEither(0) || leanings >= MOST_CLAUSES) {
+            if (word == LIMIT) {
+                limit = Math.max(1, n);
+                return true;
+            }
+            if (!take(' ') || !readEither(0) || leanings >= MOST_CLAUSES) {
                 return false;
             }
-            weights[leanings] = sign * n;
+            weights[leanings] = word == LEAN ? n : -n;
             ends[leanings] = codeSize;
             leanings++;
             return true;
         }
 
-        /** E; open tells how many of ! and ( are open around it. */
-        private boolean readEither(int open) {
-            if (!readBoth(open)) {
-                return false;
+        /** A clause's word and the blank behind it. */
+        private int readWord() {
+            if (take('t')) {
+                return takeAll("ilt ") ? TILT : NO_WORD;
             }
-            for (int i = 0; i < MOST_SIGNS && take('|'); i++) {
-                if (!readBoth(open)) {
-                    return false;
-                }
-                put(OR);
+            if (!take('l')) {
+                return NO_WORD;
             }
-            return true;
+            if (take('e')) {
+                return takeAll("an ") ? LEAN : NO_WORD;
+            }
+            return takeAll("imit ") ? LIMIT : NO_WORD;
         }
 
-        /** T. */
-        private boolean readBoth(int open) {
-            if (!readSingle(open)) {
-                return false;
-            }
-            for (int i = 0; i < MOST_SIGNS && take('&'); i++) {
-                if (!readSingle(open)) {
-                    return false;
+        /** E, with its T in the inner loop; open tells how many of ! and ( are open around it. */
+        private boolean readEither(int open) {
+            for (int ts = 0; ts < MOST_SIGNS; ts++) {
+                for (int fs = 0; fs == 0 || fs < MOST_SIGNS && take('&'); fs++) {
+                    if (!readSingle(open)) {
+                        return false;
+                    }
+                    if (fs > 0) {
+                        put(AND);
+                    }
                 }
-                put(AND);
+                if (ts > 0) {
+                    put(OR);
+                }
+                if (!take('|')) {
+                    return true;
+                }
             }
-            return true;
+            return false;
         }
 
         /** F. */
@@ -996,19 +989,24 @@ public final class LastPenny {
             return sum;
         }
 
+        void lookAtPennyOdds(State all, Penny p) {
+            for (int q = 1; q < p.goal; q++) {
+                odds[q] = all.odds(p, q, 1);
+            }
+        }
+
         /**
-         * How likely GOAL comes before 0, from a purse by penny stakes, is as the sum over j below the purse of
-         * (the odds to lose at 1 .. j, those to win at j + 1 .. GOAL - 1, all multiplied): this is that sum.
+         * By penny stakes the chance to have GOAL before 0 grows, from purse j to j + 1, by a share that is as the odds
+         * to lose at 1 .. j, times those to win at j + 1 .. GOAL - 1: the shares below a purse, together.
          */
-        static long climbs(State all, Penny p, int purse) {
+        long climbed(int goal, int purse) {
             long sum = 0;
             for (int j = 0; j < purse; j++) {
-                long product = 1;
-                for (int q = 1; q < p.goal; q++) {
-                    int o = all.odds(p, q, 1);
-                    product *= q <= j ? 10 - o : o;
+                long share = 1;
+                for (int q = 1; q < goal; q++) {
+                    share *= q <= j ? 10 - odds[q] : odds[q];
                 }
-                sum += product;
+                sum += share;
             }
             return sum;
         }
