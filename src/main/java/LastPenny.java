@@ -83,7 +83,9 @@ public final class LastPenny {
         int number = all.playerCount;
         all.players[number] = newPlayer(kind, number, v, goal);
         all.purses[number] = purse;
-        Arrays.fill(all.rows, number * ROW, (number + 1) * ROW, 0);
+        for (int k = 0; k < ROW; k++) {
+            all.rows[number * ROW + k] = 0;
+        }
         all.playerCount++;
         return number;
     }

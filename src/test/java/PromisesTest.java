@@ -371,6 +371,11 @@ public final class PromisesTest {
         due("d is 3", 4, x.of(0, 5));
         read(x, "limit 9");
         due("a newer TABLE", 5, x.of(0, 5));
+        read(x, "lean 3 p=");
+        read(x, "tilt 1 p=5&d=3;limit 4;lean 4 p=4");
+        due("a TABLE behind a fault", 4, x.of(0, 5));
+        x.purse(0, 4);
+        due("another clause of it", 9, x.of(0, 5));
     }
 
     // promise 8
@@ -504,6 +509,8 @@ public final class PromisesTest {
         dueFraction("mean 1", 7, 1, y.mean(0, 1, 0), y.mean(0, 1, 1));
         LastPenny z = with("tilt 2 p>0", PENNY, 0, 12, 5);
         dueFraction("mean 2", 21, 5, z.mean(0, 2, 0), z.mean(0, 2, 1));
+        LastPenny few = with("tilt 2 p=2", PENNY, 0, 4, 2);
+        dueFraction("mean 1, of 1 and 3", 8, 5, few.mean(0, 1, 0), few.mean(0, 1, 1));
         due("n 16", NO, x.mean(0, 16, 0));
         due("part 2", NO, x.mean(0, 1, 2));
         due("player 1", NO, x.mean(1, 1, 0));
@@ -555,6 +562,10 @@ public final class PromisesTest {
         LastPenny y = with("limit 1", PENNY, 0, 4, 2);
         due("best by limit 1", 1, y.best(0, 2));
         dueFraction("chance by limit 1", 1, 4, y.bestChance(0, 2, 0), y.bestChance(0, 2, 1));
+        dueFraction("chance by limit 1 in 4", 3, 8, y.bestChance(0, 4, 0), y.bestChance(0, 4, 1));
+        y.purse(0, 1);
+        due("best from 1", 1, y.best(0, 3));
+        dueFraction("chance from 1", 1, 8, y.bestChance(0, 3, 0), y.bestChance(0, 3, 1));
         LastPenny z = with("lean 4 s=2;tilt 3 s=3", BOLD, 0, 6, 3);
         // 3 at once wins by 2 of 10; 1 and then 2 as likely as 2 and then 1: the lesser
         due("best of several", 1, z.best(0, 2));
@@ -651,6 +662,14 @@ public final class PromisesTest {
         // the first gives; else: four ways, from 2 1 2 and 2 2 1 it can't, from 1 3 1 and 1 1 3 it gives by 2 of 6
         dueTrio(x, 122, 2, 0, 4, 9);
         dueTrio(x, 122, 2, 1, 1, 9);
+        dueTrio(x, 123, 2, 0, 4, 9);
+        dueTrio(x, 123, 2, 1, 1, 9);
+        dueTrio(x, 123, 2, 2, 0, 1);
+        dueTrio(x, 123, 3, 2, 1, 27);
+        dueTrio(x, 312, 2, 1, 4, 9);
+        dueTrio(x, 312, 3, 0, 1, 27);
+        dueTrio(x, 231, 2, 2, 4, 9);
+        dueTrio(x, 231, 3, 1, 1, 27);
         dueTrio(x, 212, 1, 1, 1, 3);
         dueTrio(x, 221, 1, 2, 1, 3);
         int[] bad = {0, 11, 101, 110, 115, 151, 511, 611, 1111, -111, 9999, 444444, 110 + 1000};
@@ -769,6 +788,7 @@ public final class PromisesTest {
         dueSeen(x, "+---", 2, 3);
         dueSeen(x, "+++-", 7, 3);
         dueSeen(x, "++-", 7, 2);
+        dueSeen(x, "---+------", 1, 6);
         dueSeen(x, "--+++-++", 6, 3);
         dueSeen(x, "++++++++++++++++++++++++", 10, 24);
         dueSeen(x, "-----------------------+", 0, 23);
