@@ -262,7 +262,8 @@ public final class LastPenny {
         if (o < 0 || o > 10 || r < 1 || r > MOST_STREAK || !isSpan(n) || !isPart(part)) {
             return NO;
         }
-        return lowest(chances.streaks(o, r, n), chances.ways, part);
+        long streaks = chances.streaks(o, r, n);
+        return lowest(streaks, chances.ways, part);
     }
 
     // ---- throws told by hand
@@ -1097,7 +1098,7 @@ public final class LastPenny {
             }
         }
 
-        /** In how many ways r losses come one behind the other; now holds the rest by the losses at its end. */
+        /** In how many ways r losses come one behind the other; now holds, below r, the rest by the losses at its end. */
         long streaks(int o, int r, int n) {
             Arrays.fill(now, 0);
             now[0] = 1;
@@ -1110,7 +1111,6 @@ public final class LastPenny {
                     next[losses + 1] += now[losses] * (10 - o);
                 }
                 streaks = streaks * 10 + next[r];
-                next[r] = 0;
                 ways *= 10;
                 System.arraycopy(next, 0, now, 0, PURSES);
             }
